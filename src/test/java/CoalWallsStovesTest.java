@@ -68,6 +68,9 @@ public final class CoalWallsStovesTest {
         check.due("61 - 41 / 20", x.wall(0, 1), Check.NONE);
         x.change(0, 1, 62);
         check.due("62 - 42 / 15", x.wall(0, 1), 15);
+        x.out(41);
+        x.change(0, 1, 60);
+        check.due("60 - 19 / 20", x.wall(0, 1), 20);
         x.out(60);
         check.due("warm outside", x.wall(0, 60), 1);
         x.out(0);
@@ -115,6 +118,14 @@ public final class CoalWallsStovesTest {
         WarmWalls y = kindlyWithLittleCoal();
         check.due("it pays to damp, the least that does", y.damper(0, 3), 1);
         check.due("not for 2 hours", y.damper(0, 2), 0);
+        // Only with all 3 damped away the saintly one stays below 120 for an hour: 121 instead of 120.
+        WarmWalls z = Check.house(Check.SPITEFUL, Check.SAINTLY);
+        Check.changeAll(z, 4, 1, 0);
+        Check.changeAll(z, 1, 98, 118);
+        Check.changeAll(z, 2, 6, 5);
+        Check.changeAll(z, 3, 9, 15);
+        Check.changeAll(z, 7, 3, 3);
+        check.due("a damper of 3", z.damper(0, 4), 3);
     }
 
     /**

@@ -126,6 +126,7 @@ public final class HoursTest {
         check.due("n 101", x.ahead(101, 0), Check.BEYOND);
         check.due("n 100", x.ahead(100, 0), 100);
         check.due("least of none", new WarmWalls().ahead(5, 3), 300);
+        check.due("no room 0", new WarmWalls().ahead(5, 4), Check.BEYOND);
         x.hours(3);
         check.due("as it was told", x.of(0, 1), 52);
         check.due("as it was told", x.of(1, 1), 116);
@@ -220,6 +221,14 @@ public final class HoursTest {
         check.due("a shovel in a ring of 6", ring(6, 0).circle(), 6);
         check.due("a shovel in a ring of 7: 14", ring(7, 0).circle(), Check.NONE);
         check.due("a shovel in a ring of 8", ring(8, 0).circle(), 8);
+        WarmWalls two = ring(7, 0);
+        two.change(2, 4, 0);
+        two.change(6, 4, 3);
+        two.change(3, 7, 1);
+        check.due("one in a ring of 3 and one in a ring of 4", two.circle(), 12);
+        WarmWalls alone = Check.house(0);
+        alone.change(0, 2, 24);
+        check.due("room 0 counts", alone.circle(), Check.NONE);
         check.due("nothing changes", y.now(0), 0);
         check.due("in hour 1", ring(5, 1).circle(), 10);
         WarmWalls z = Check.house(0, 0);

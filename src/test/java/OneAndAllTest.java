@@ -71,6 +71,14 @@ public final class OneAndAllTest {
         y.change(0, 8, 3);
         y.change(0, 7, 1);
         check.due("a slow one", y.kindFor(0, 2), Check.SLOW);
+        // Its room is at 114, 114, 114, 101, 113, 114 behind 3 hours as one of the other kinds, at 115 as a spiteful one.
+        WarmWalls z = Check.house(Check.SAINTLY, Check.JUST);
+        Check.changeAll(z, 4, 1, 0);
+        Check.changeAll(z, 1, 74, 29);
+        Check.changeAll(z, 2, 2, 4);
+        Check.changeAll(z, 3, 13, 20);
+        Check.changeAll(z, 7, 1, 2);
+        check.due("a spiteful one", z.kindFor(0, 3), Check.SPITEFUL);
     }
 
     private static void tempted() {
@@ -88,6 +96,9 @@ public final class OneAndAllTest {
         Check.changeAll(x, 7, 1, 3);
         x.change(1, 0, Check.JUST);
         check.due("one who hands nothing on", x.tempted(2), 1);
+        WarmWalls y = Check.house(Check.MISER, Check.JUST, Check.MISER, Check.JUST);
+        Check.changeAll(y, 4, 1, 0, 3, 2);
+        check.due("both misers", y.tempted(2), 5);
         check.due("without rooms", new WarmWalls().tempted(5), 0);
     }
 
@@ -117,6 +128,9 @@ public final class OneAndAllTest {
         WarmWalls y = Check.house(Check.SAINTLY, Check.JUST, Check.SAINTLY, Check.EVEN);
         Check.changeAll(y, 4, 1, 0, 3, 7);
         check.due("of others alone", y.missed(2), 0);
+        WarmWalls z = Check.house(Check.SAINTLY, Check.EVEN, Check.SAINTLY, Check.JUST);
+        Check.changeAll(z, 4, 1, 7, 3, 2);
+        check.due("of others alone: the first of like ones", z.missed(2), 0);
         y.change(1, 4, 3);
         check.due("handed on to a third one", y.missed(3), 0);
         y.change(0, 6, 2);
@@ -143,6 +157,12 @@ public final class OneAndAllTest {
         x.move(0, 2);
         check.due("best as it is", x.warmest(1), 74);
         check.due("none is better", x.exchange(1), Check.NONE);
+        WarmWalls y = Check.house(Check.EVEN, Check.EVEN, Check.MISER, Check.EVEN);
+        y.change(3, 4, 0);
+        Check.changeAll(y, 1, 200, 62, 62, 50);
+        // The miser leaves rooms 1, 2 or 3 at 58, 58, 47: best it heats room 0.
+        check.due("warmest by 2 and 3", y.warmest(1), 61);
+        check.due("exchange", y.exchange(1), 23);
         check.due("of one alone", Check.house(0).warmest(1), 92);
         check.due("none to exchange with", Check.house(0).exchange(1), Check.NONE);
         check.due("without rooms", new WarmWalls().warmest(1), Check.STATE);
@@ -177,7 +197,7 @@ public final class OneAndAllTest {
         check.due("the one who would come loses", x.deal(1), Check.NONE);
         WarmWalls y = Check.house(Check.JUST, Check.EVEN, Check.EVEN, Check.EVEN);
         check.due("like ones gain from warmer rooms, and one loses", y.deal(3), Check.NONE);
-        WarmWalls z = bothGain();
+        WarmWalls z = bothGain(0, 2);
         int kept = z.ahead(1, 2);
         check.due("deal", z.deal(1), 2);
         int first = z.ahead(1, 4);
@@ -187,21 +207,37 @@ public final class OneAndAllTest {
         check.due("the one from 2 is warmer", z.ahead(1, 4) > other ? 1 : 0, 1);
         check.due("warmth in all", z.ahead(1, 2) > kept ? 1 : 0, 1);
         check.due("not back again", z.deal(1), Check.NONE);
+        check.due("1 and 2", bothGain(1, 2).deal(1), 12);
+        check.due("2 and 4", bothGain(2, 4).deal(1), 24);
+        WarmWalls w = bothGain(0, 2);
+        w.change(0, 1, 134);
+        check.due("124 instead of 123", w.deal(1), 2);
+        w.change(0, 1, 135);
+        check.due("124 instead of 124", w.deal(1), Check.NONE);
+        w.change(0, 1, 100);
+        w.change(2, 1, 100);
+        check.due("106 instead of 106", w.deal(1), Check.NONE);
         check.due("alone", Check.house(0).deal(1), Check.NONE);
         check.due("without rooms", new WarmWalls().deal(1), Check.STATE);
         check.due("without rooms, n asked first", new WarmWalls().deal(25), Check.BEYOND);
     }
 
     /**
-     * Rooms 0 and 2 heat one another. Room 0 got 3 and its one is even, room 2 got none and its one is just: if they
-     * change, room 2 gets 3 instead of 1, and room 0 gets 1 instead of none. So the one from 0 has 124 instead of 92,
-     * and the one from 2, whose room is colder, 106 instead of 97.
+     * Two rooms heat one another. The first got 3 and its one is even, the second got none and its one is just: if they
+     * change, the second gets 3 instead of 1, and the first gets 1 instead of none. So the even one has 124 instead of
+     * 92, and the just one, whose room is colder, 106 instead of 97. The others heat rooms that aren't there.
      */
-    private static WarmWalls bothGain() {
-        WarmWalls x = Check.house(Check.EVEN, Check.EVEN, Check.JUST);
-        Check.changeAll(x, 4, 2, 7, 0);
-        Check.changeAll(x, 7, 3, 1, 0);
-        x.change(2, 1, 90);
+    private static WarmWalls bothGain(int first, int second) {
+        WarmWalls x = new WarmWalls();
+        for (int room = 0; room <= second; room++) {
+            x.room(room == second ? Check.JUST : Check.EVEN);
+            x.change(room, 4, 7);
+        }
+        x.change(first, 4, second);
+        x.change(second, 4, first);
+        x.change(first, 7, 3);
+        x.change(second, 7, 0);
+        x.change(second, 1, 90);
         return x;
     }
 
@@ -234,11 +270,43 @@ public final class OneAndAllTest {
         check.due("n 25", y.orders(2, 25), Check.BEYOND);
         check.due("n 24", y.orders(2, 24), 0);
         check.due("without rooms", new WarmWalls().orders(2, 1), Check.BEYOND);
+        check.due("6 of 6", Check.house(0, 0, 0, 0, 0, 0).orders(6, 1), Check.BEYOND);
+        dueOrders(1, 0, 1, 2);
+        dueOrders(1, 0, 2, 1);
+        dueOrders(1, 1, 0, 2);
+        dueOrders(1, 1, 2, 0);
+        dueOrders(1, 2, 0, 1);
+        dueOrders(1, 2, 1, 0);
+        dueOrders(24, 2, 0, 0, 0, 0);
+        dueOrders(24, 0, 0, 0, 0, 2);
+        dueOrders(12, 1, 1, 1, 0, 0);
+        dueOrders(12, 0, 0, 1, 1, 1);
+        dueOrders(4, 1, 0, 2, 0, 1);
+        dueOrders(4, 0, 1, 0, 1, 2);
+    }
+
+    /**
+     * A miser gives 0, an even one 1, a saintly one 2, a kindly one 1 and a spiteful one 0: how many orders give each
+     * room's stove the shovels that the room it heats needs.
+     */
+    private static void dueOrders(int due, int... needs) {
+        int[] warmths = {100, 50, 40};
+        int[] kinds = {Check.MISER, Check.EVEN, Check.SAINTLY, Check.KINDLY, Check.SPITEFUL};
+        WarmWalls x = new WarmWalls();
+        for (int room = 0; room < needs.length; room++) {
+            x.room(kinds[room]);
+        }
+        for (int room = 0; room < needs.length; room++) {
+            int heated = (room + 1) % needs.length;
+            x.change(room, 4, heated);
+            x.change(heated, 1, warmths[needs[room]]);
+        }
+        check.due("orders of " + needs.length, x.orders(needs.length, 1), due);
     }
 
     private static void nothingChanges() {
         check.promise("16 to 23 (AHEAD changes nothing)");
-        WarmWalls x = bothGain();
+        WarmWalls x = bothGain(0, 2);
         x.hold(3, 2);
         askAll(x);
         int[][] due = {{0, 100, 50, 10, 2, 0, 0, 3, 1}, {0, 100, 50, 10, 7, 0, 0, 1, 1}, {2, 90, 50, 10, 0, 0, 0, 0, 1}};
@@ -264,7 +332,7 @@ public final class OneAndAllTest {
 
     private static void wrongInputs() {
         check.promise("16 to 22 (BEYOND)");
-        WarmWalls x = bothGain();
+        WarmWalls x = bothGain(0, 2);
         int[] wrong = {0, -1, 61};
         for (int n : wrong) {
             check.due("spread " + n, x.spread(0, n), Check.BEYOND);

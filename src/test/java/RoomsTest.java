@@ -86,6 +86,9 @@ public final class RoomsTest {
         y.hours(1);
         y.change(0, 8, 3);
         check.due("SLOW in an even HOUR", y.of(0, 9), 1);
+        y.hours(1);
+        y.change(0, 8, 3);
+        check.due("SLOW in HOUR 3", y.of(0, 9), 3);
     }
 
     private static void dueWants(WarmWalls x, String when, int... wants) {

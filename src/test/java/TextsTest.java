@@ -102,6 +102,17 @@ public final class TextsTest {
         due("Even", 0);
         due("evens", 0);
         due("eve", 0);
+        due("xven", 0);
+        due("evenz", 0);
+        due("evena", 0);
+        due("even`", 4);
+        due("even{", 4);
+        due("even/", 4);
+        due("even:", 4);
+        due("even warm 3/", 11);
+        due("even warm 3:", 11);
+        due("even\0", 4);
+        due("\0", 0);
         due("warm 3", 0);
         due("evenjust", 0);
         due("even just", 5);

@@ -70,6 +70,11 @@ public final class WhoItWasTest {
         check.due("none", x.surely(0), Check.NONE);
         check.due("none", x.surely(1), Check.NONE);
         check.due("none", x.surely(2), Check.NONE);
+        WarmWalls y = Check.house(0, 0);
+        y.change(0, 7, 0);
+        check.due("the empty set, or room 1: in all", y.surely(0), 0);
+        check.due("the empty set, or room 1: in any", y.surely(1), 2);
+        check.due("the empty set, or room 1: the least", y.surely(2), 0);
         check.due("what 3", x.surely(3), Check.BEYOND);
         check.due("what -1", x.surely(-1), Check.BEYOND);
     }
