@@ -23,11 +23,15 @@ public final class WarmWalls {
     /** The kind above each kind; none above EVEN. */
     private static final int[] ABOVE = {-1, EVEN, EVEN, JUST, KINDLY, EVEN, JUST};
 
+    private static final int WHAT_KIND = 0;
     private static final int WARMTH = 1;
     private static final int COAL = 2;
     private static final int WALL = 3;
     private static final int HEATS = 4;
+    private static final int AWAY = 5;
     private static final int DAMPER = 6;
+    private static final int GOT = 7;
+    private static final int GAVE = 8;
     private static final int WANTS = 9;
     /** What of() tells and change() sets, 0 to 8, lies between these. */
     private static final int[] LEAST = {0, 0, 0, 1, 0, 0, 0, 0, 0};
@@ -235,7 +239,7 @@ public final class WarmWalls {
             return tell(finding);
         }
         goAsItGoes(n);
-        goWithKind(room, MISER, n);
+        goWith(room, WHAT_KIND, MISER, n);
         return asItGoes.warmerThan(trial);
     }
 
@@ -244,13 +248,18 @@ public final class WarmWalls {
         if (finding != FINE) {
             return tell(finding);
         }
-        int best = EVEN;
+        return bestForItself(room, WHAT_KIND, n);
+    }
+
+    /** The least number of a ROOM's, of all it may have, with which it is warmest itself. */
+    private int bestForItself(int room, int what, int n) {
+        int best = 0;
         int most = -1;
-        for (int kind = EVEN; kind <= SPITEFUL; kind++) {
-            goWithKind(room, kind, n);
+        for (int v = LEAST[what]; v <= MOST[what]; v++) {
+            goWith(room, what, v, n);
             if (trial.warmth[room] > most) {
                 most = trial.warmth[room];
-                best = kind;
+                best = v;
             }
         }
         return best;
@@ -264,7 +273,7 @@ public final class WarmWalls {
         goAsItGoes(n);
         int set = 0;
         for (int room = 0; room < house.rooms; room++) {
-            goWithKind(room, EVEN, n);
+            goWith(room, WHAT_KIND, EVEN, n);
             if (trial.warmth[room] > asItGoes.warmth[room]) {
                 set |= 1 << room;
             }
@@ -295,9 +304,7 @@ public final class WarmWalls {
 
     /** Below 0 if the others are warmer without it: coal that isn't stoked yet is stoked later. */
     private int takenByAbsence(int room, int n) {
-        startTrial();
-        trial.away[room] = 1;
-        trial.passHours(n);
+        goWith(room, AWAY, 1, n);
         int all = asItGoes.sumOf(asItGoes.warmth) - trial.sumOf(trial.warmth);
         return all - (asItGoes.warmth[room] - trial.warmth[room]);
     }
@@ -418,13 +425,10 @@ public final class WarmWalls {
         if (finding != FINE) {
             return tell(finding);
         }
-        int heated = house.heats[room];
         // No one stokes more than 3 shovels an HOUR: more COAL than that changes nothing.
         for (int coal = 0; coal <= 3 * n; coal++) {
-            startTrial();
-            trial.coal[room] = coal;
-            trial.passHours(n);
-            if (trial.warmth[heated] >= COLD_BELOW) {
+            goWith(room, COAL, coal, n);
+            if (trial.warmth[house.heats[room]] >= COLD_BELOW) {
                 return coal;
             }
         }
@@ -437,9 +441,7 @@ public final class WarmWalls {
             return tell(finding);
         }
         for (int wall = LEAST[WALL]; wall <= MOST[WALL]; wall++) {
-            startTrial();
-            trial.wall[room] = wall;
-            trial.passHours(n);
+            goWith(room, WALL, wall, n);
             if (trial.warmth[room] >= COLD_BELOW) {
                 return wall;
             }
@@ -461,9 +463,7 @@ public final class WarmWalls {
             if (heated == room) {
                 continue;
             }
-            startTrial();
-            trial.heats[room] = heated;
-            trial.passHours(n);
+            goWith(room, HEATS, heated, n);
             int least = trial.leastWarmth();
             if (least > most) {
                 most = least;
@@ -478,18 +478,7 @@ public final class WarmWalls {
         if (finding != FINE) {
             return tell(finding);
         }
-        int best = 0;
-        int most = -1;
-        for (int damper = LEAST[DAMPER]; damper <= MOST[DAMPER]; damper++) {
-            startTrial();
-            trial.damper[room] = damper;
-            trial.passHours(n);
-            if (trial.warmth[room] > most) {
-                most = trial.warmth[room];
-                best = damper;
-            }
-        }
-        return best;
+        return bestForItself(room, DAMPER, n);
     }
 
     public int own(int n) {
@@ -805,9 +794,12 @@ public final class WarmWalls {
         asItGoes.passHours(n);
     }
 
-    private void goWithKind(int room, int kind, int n) {
+    private void goWith(int room, int what, int v, int n) {
         startTrial();
-        trial.kind[room] = kind;
+        int[] row = trial.rowOf(what);
+        if (row != null && trial.has(room)) {
+            row[room] = v;
+        }
         trial.passHours(n);
     }
 
@@ -864,7 +856,7 @@ public final class WarmWalls {
 
         int[] rowOf(int what) {
             switch (what) {
-                case 0:
+                case WHAT_KIND:
                     return kind;
                 case WARMTH:
                     return warmth;
@@ -874,13 +866,13 @@ public final class WarmWalls {
                     return wall;
                 case HEATS:
                     return heats;
-                case 5:
+                case AWAY:
                     return away;
                 case DAMPER:
                     return damper;
-                case 7:
+                case GOT:
                     return got;
-                case 8:
+                case GAVE:
                     return gave;
                 default:
                     return null;
