@@ -824,7 +824,7 @@ public final class WarmWalls {
         final int[] damper = new int[MOST_ROOMS];
         final int[] got = new int[MOST_ROOMS];
         final int[] gave = new int[MOST_ROOMS];
-        /** The ROOM in which the one that a SPOT holds lives now; -1 for nothing. */
+        /** The ROOM whose one a SPOT holds, whoever lives there by then; -1 for nothing. */
         final int[] spots = new int[MOST_SPOTS];
 
         House() {
@@ -991,18 +991,11 @@ public final class WarmWalls {
             return true;
         }
 
+        /** Only what the document names goes along: SPOTS stay with their ROOM's number. */
         void changePlaces(int one, int other) {
             swap(kind, one, other);
             swap(away, one, other);
             swap(gave, one, other);
-            // A SPOT holds the one, not the ROOM: it finds that one where it lives now.
-            for (int spot = 0; spot < MOST_SPOTS; spot++) {
-                if (spots[spot] == one) {
-                    spots[spot] = other;
-                } else if (spots[spot] == other) {
-                    spots[spot] = one;
-                }
-            }
         }
 
         private static void swap(int[] row, int one, int other) {

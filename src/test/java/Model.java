@@ -31,7 +31,7 @@ final class Model {
         int out = 20;
         int hour;
         int z = 1;
-        One[] spots = new One[10];
+        Integer[] spots = new Integer[10];
 
         State copy() {
             State c = new State();
@@ -51,19 +51,8 @@ final class Model {
                 r.got = room.got;
                 c.rooms.add(r);
             }
-            for (int i = 0; i < 10; i++) {
-                c.spots[i] = spots[i] == null ? null : c.rooms.get(roomOf(spots[i])).one;
-            }
+            c.spots = spots.clone();
             return c;
-        }
-
-        int roomOf(One one) {
-            for (int i = 0; i < rooms.size(); i++) {
-                if (rooms.get(i).one == one) {
-                    return i;
-                }
-            }
-            throw new IllegalStateException("one lives nowhere");
         }
 
         int wants(Room r) {
@@ -746,17 +735,17 @@ final class Model {
         if (name.equals("hold")) {
             between(spot, 0, 9);
             between(v, -1, now.rooms.size() - 1);
-            now.spots[spot] = v < 0 ? null : now.rooms.get(v).one;
+            now.spots[spot] = v < 0 ? null : Integer.valueOf(v);
             return 1;
         }
         between(spot, 0, 9);
         between(v, 0, 6);
-        One one = now.spots[spot];
-        unless(one != null, Check.MISSING);
+        Integer room = now.spots[spot];
+        unless(room != null, Check.MISSING);
         List<List<Integer>> kinds = List.of(List.of(0), List.of(1, 0), List.of(2, 0), List.of(3, 2, 0),
             List.of(4, 1, 0), List.of(5, 0), List.of(6, 2, 0));
-        unless(kinds.get(one.kind).contains(v), Check.KIND);
-        return now.roomOf(one);
+        unless(kinds.get(now.rooms.get(room).one.kind).contains(v), Check.KIND);
+        return room;
     }
 
     private int sheets(String name, int[] a) {

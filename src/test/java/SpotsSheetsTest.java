@@ -5,7 +5,7 @@ public final class SpotsSheetsTest {
     public static void main(String[] args) {
         hold();
         as();
-        spotsKeepTheirOne();
+        spotsStayAtTheirRoom();
         sheet();
         write();
         copy();
@@ -57,8 +57,8 @@ public final class SpotsSheetsTest {
         check.due("status", x.status(2), 33);
     }
 
-    private static void spotsKeepTheirOne() {
-        check.promise("36, 37 (a SPOT holds the one of a ROOM)");
+    private static void spotsStayAtTheirRoom() {
+        check.promise("8, 36, 37 (KIND, AWAY, GAVE go along, no SPOT)");
         WarmWalls x = Check.house(Check.MISER, Check.SAINTLY, Check.JUST);
         x.hold(0, 0);
         x.hold(1, 1);
@@ -67,12 +67,23 @@ public final class SpotsSheetsTest {
         check.due("it has changed its kind", x.as(0, Check.MISER), Check.KIND);
         check.due("it has changed its kind", x.as(0, Check.SLOW), 0);
         x.move(0, 1);
-        check.due("it lives in 1 now", x.as(0, Check.SLOW), 1);
-        check.due("it lives in 0 now", x.as(1, Check.SAINTLY), 0);
-        check.due("it stays", x.as(2, Check.JUST), 2);
+        check.due("a saintly one lives in 0 now", x.as(0, Check.SAINTLY), 0);
+        check.due("the slow one has gone", x.as(0, Check.SLOW), Check.KIND);
+        check.due("a slow one lives in 1 now", x.as(1, Check.SLOW), 1);
+        check.due("the saintly one has gone", x.as(1, Check.KINDLY), Check.KIND);
+        check.due("not moved", x.as(2, Check.JUST), 2);
         check.due("all hold", x.count(7), 3);
         x.move(1, 1);
-        check.due("it stays", x.as(0, Check.SLOW), 1);
+        check.due("with itself", x.as(1, Check.SLOW), 1);
+        check.due("two spots at a room", x.hold(9, 1), 1);
+        x.move(2, 1);
+        check.due("both stay", x.as(1, Check.JUST), 1);
+        check.due("both stay", x.as(9, Check.JUST), 1);
+        check.due("the slow one lives in 2 now", x.as(2, Check.SLOW), 2);
+        x.image();
+        x.move(1, 2);
+        x.undo();
+        check.due("as it was kept", x.as(1, Check.JUST), 1);
     }
 
     private static void sheet() {
