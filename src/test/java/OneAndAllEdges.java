@@ -122,6 +122,9 @@ final class OneAndAllEdges {
         edges.house(2, 3, 2, 3, 2, 3, 2, 3).all(4, 1, 0, 3, 2, 5, 4, 7, 6).due("tempted 2", 170);
         // As much is not more.
         edges.house(Check.JUST, Check.JUST).all(4, 1, 0).due("tempted 2", 0);
+        // EVEN and no other: the MISER who got 3 gives 1 as an EVEN one does; in HOUR 1 it would give 2 or 3 as another.
+        edges.house(Check.MISER, Check.JUST).does("hours 1").all(4, 1, 0).all(1, 150, 100).all(7, 3, 0).all(8, 3, 0)
+            .due("tempted 2", 0).does("change 0 7 1").due("tempted 2", 1);
     }
 
     private void temptedRefused() {
@@ -207,6 +210,7 @@ final class OneAndAllEdges {
         coldSecond().due("exchange 1", 1).due("exchange 24", 1);
         coldSecond().does("change 7 0 4").due("exchange 1", 7).does("change 5 0 4").due("exchange 1", 5);
         coldSecond().does("move 1 0").due("exchange 1", Check.NONE);
+        coldSecond().does("out 0").due("exchange 1", 1).due("warmest 1", 50);
         // By move() KIND, AWAY and GAVE go, not KIND alone: here no one else is AWAY.
         edges.house(EIGHT_EVEN).all(1, 150, 40, 150, 150, 150, 150, 150, 150).does("change 0 5 1").due("exchange 1", 1)
             .due("warmest 1", 52);
@@ -251,6 +255,7 @@ final class OneAndAllEdges {
         bothGain(6, 7).due("deal 1", 67).due("deal 23", 67).due("deal 24", Check.NONE);
         bothGain(7, 6).due("deal 1", 67);
         bothGain(0, 7).due("deal 1", 7);
+        bothGain(0, 1).does("out 0").due("deal 1", 1);
         gainToo(bothGain(2, 3), 6, 7).due("deal 1", 23);
         gainToo(bothGain(6, 7), 0, 1).due("deal 1", 1).does("move 0 1").due("deal 1", 67);
     }

@@ -194,6 +194,8 @@ final class RoomsEdges {
         for (int room = 0; room < 8; room++) {
             ring.due("reach " + room, 255);
         }
+        // It reaches them, even if it is as cold inside, no one is there and no COAL is left.
+        ring.does("out 0", "change 3 2 0", "change 3 5 1", "change 3 6 3", "change 4 1 0").due("reach 0", 255);
         // It goes round behind ROOM 0 and doesn't come back to it.
         ring.does("change 7 4 1").due("reach 0", 254).due("reach 1", 254).due("reach 7", 254);
         ring.does("change 7 4 6").due("reach 0", 254).due("reach 6", 192).due("reach 7", 192);

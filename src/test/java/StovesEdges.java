@@ -32,6 +32,8 @@ final class StovesEdges {
         for (int[] warmthAndCoal : warmths) {
             s.does("change 1 1 " + warmthAndCoal[0]).due("coal 0 1", warmthAndCoal[1]);
         }
+        // It is the ROOM that it heats that counts, not the next one nor its own.
+        edges.house(Check.SAINTLY, 0, 0).all(4, 2, 0, 0).all(1, 0, 0, 46).due("coal 0 1", 2);
         // What it has is not asked.
         s.does("change 0 2 0").due("coal 0 1", 3).does("change 0 2 999").due("coal 0 1", 3);
         // A thin wall: only with 3 shovels in each HOUR, the 60th too, ROOM 1 is at 65, else below 60.

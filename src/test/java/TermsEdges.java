@@ -227,6 +227,9 @@ final class TermsEdges {
         }
         Story away = edges.house(Check.SAINTLY).does("change 0 5 1").due("of 0 9", 2).due("hours 1", 0);
         away.due("of 0 8", 0).due("of 0 2", 50);
+        // By the HOUR ahead of which it stokes: 0, 1, 2.
+        edges.house(Check.SLOW).does("change 0 8 3").due("hours 1", 1).does("change 0 8 3").due("hours 1", 3)
+            .does("change 0 8 3").due("hours 1", 1);
     }
 
     private void hourAtFirstAndLast() {

@@ -133,6 +133,9 @@ final class TextsEdges {
                 .due("of 1 3", 10).due("of 1 4", 2).due("of 1 5", 0).due("of 1 6", 0).due("of 1 7", 1).due("of 1 8", 1);
             fault(words[kind].substring(1), 0);
             fault(words[kind] + "x", 0);
+            fault("x" + words[kind].substring(1), 0);
+            fault(words[kind].substring(0, words[kind].length() - 1), 0);
+            fault(words[kind].substring(0, words[kind].length() - 1) + "x", 0);
             fault(words[kind] + " " + words[kind], words[kind].length() + 1);
         }
     }
@@ -214,6 +217,16 @@ final class TextsEdges {
         fault("even;warm 3", 5);
         fault("out just", 4);
         fault("damper even", 7);
+        String[] words = {"warm", "coal", "wall", "heats", "away"};
+        for (String word : words) {
+            fault("even x" + word.substring(1), 5);
+            fault("even " + word.substring(0, word.length() - 1), 5);
+            fault("even " + word.substring(0, word.length() - 1) + "x", 5);
+        }
+        fault("xut 3", 0);
+        fault("oux 3", 0);
+        fault("even;xamper 0 1", 5);
+        fault("even;dampex 0 1", 5);
         fault("out 3 away", 6);
     }
 
