@@ -18,11 +18,14 @@ public final class LanguageTest {
         String bare = source.replaceAll("(?s)/\\*.*?\\*/", "").replaceAll("//[^\n]*", "")
             .replaceAll("\"[^\"\n]*\"", "\"\"").replaceAll("'[^'\n]*'", "' '");
         face();
+        faceAsWritten(source);
+        heads(source);
         names();
         words(bare);
         library(bare);
         objects(bare);
         signs(source);
+        lengths(source);
         check.end();
     }
 
@@ -52,6 +55,43 @@ public final class LanguageTest {
         Constructor<?>[] constructors = WarmWalls.class.getDeclaredConstructors();
         check.due("constructors", constructors.length, 1);
         check.due("public", Modifier.isPublic(constructors[0].getModifiers()) ? 1 : 0, 1);
+    }
+
+    /** With the names and types of the parameters, too. */
+    private static void faceAsWritten(String source) throws Exception {
+        check.promise("(the face)");
+        Matcher told = Pattern.compile("(?m)^( *public [^;{]+\\))([;{])").matcher(read("../shared/DOC.md"));
+        int lines = 0;
+        while (told.find()) {
+            lines++;
+            check.due("written so: " + told.group(1).trim(), source.contains("\n" + told.group(1) + " {\n") ? 1 : 0, 1);
+        }
+        check.due("lines of the face", lines, 47);
+        check.due("the class", source.contains("\npublic final class WarmWalls {\n") ? 1 : 0, 1);
+    }
+
+    /** "Ahead of the calls .. the interface says": the calls stand under these heads, in this order. */
+    private static void heads(String source) throws Exception {
+        check.promise("(Terms, the interface says)");
+        Matcher told = Pattern.compile("(?m)^Ahead of the calls (.+) the interface says: (---- .+)\\.$")
+            .matcher(read("../shared/DOC.md"));
+        int calls = 0;
+        while (told.find()) {
+            Matcher there = Pattern.compile("\n    public int (\\w+)\\(").matcher(partUnder(source, told.group(2)));
+            StringBuilder found = new StringBuilder();
+            while (there.find()) {
+                calls++;
+                found.append(found.length() == 0 ? "`" : ", `").append(there.group(1)).append('`');
+            }
+            check.due("under " + told.group(2) + " " + found, found.toString().equals(told.group(1)) ? 1 : 0, 1);
+        }
+        check.due("calls under heads", calls, 46);
+    }
+
+    private static String partUnder(String source, String head) {
+        int from = source.indexOf("\n    // " + head + "\n");
+        int to = from < 0 ? -1 : source.indexOf("\n    // ----", from + 1);
+        return to < 0 ? "" : source.substring(from, to);
     }
 
     private static void names() {
@@ -128,5 +168,18 @@ public final class LanguageTest {
         for (String line : source.split("\n")) {
             check.due("long line: " + line.trim(), line.length() <= 120 ? 1 : 0, 1);
         }
+    }
+
+    private static void lengths(String source) {
+        check.promise("(rule 11)");
+        check.due("classes", source.split("\\bclass \\w+ \\{", -1).length - 1 <= 12 ? 1 : 0, 1);
+        Matcher method = Pattern.compile("(?ms)^( +)[\\w\\[\\] ]+\\([^()\n]*\\) \\{\n.*?^\\1\\}\n").matcher(source);
+        int methods = 0;
+        while (method.find()) {
+            methods++;
+            String head = method.group().substring(0, method.group().indexOf('\n')).trim();
+            check.due("lines of " + head, method.group().split("\n").length <= 60 ? 1 : 0, 1);
+        }
+        check.due("methods were read", methods >= 46 ? 1 : 0, 1);
     }
 }
